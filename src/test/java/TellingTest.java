@@ -161,6 +161,10 @@ final class TellingTest {
     check.due("what comes after them", Check.notation(x, 5, "g"), 0);
     check.due("has none of the old words", Check.read(x, "g b"), "fault 1 at 2");
     check.due("and is whole", Check.read(x, "g"), 1);
+    Check.parts(x, "a _0 b _0 c _0");
+    check.due("holes and a wrong level", () -> x.notation(-1), ARGUMENT);
+    check.due("what comes after them", Check.notation(x, 5, "h"), 1);
+    check.due("has none of the old holes", Check.read(x, "h z"), "fault 1 at 2");
   }
 
   private static void twelveNotations() {
