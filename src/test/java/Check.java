@@ -130,6 +130,22 @@ final class Check {
     return all.toString();
   }
 
+  /** All that can be asked of an object without changing it, but for its keys. */
+  static String state(NotationParse x) {
+    StringBuilder state = new StringBuilder();
+    for (int what = 0; what < 5; what++) {
+      state.append(x.about(what)).append(' ');
+    }
+    return state + "fault " + x.fault(0) + " at " + x.fault(1) + "; " + nodes(x) + "; " + output(x);
+  }
+
+  /** A call that throws, or answers false, and changes nothing. */
+  void refused(NotationParse x, String what, Call call, Object want) {
+    String before = state(x);
+    due(what, call, want);
+    due("the state behind " + what, state(x), before);
+  }
+
   /** A new object with sums, products, a sign ahead, and two forms of if. */
   static NotationParse sums() {
     NotationParse x = new NotationParse();

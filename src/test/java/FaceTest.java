@@ -48,7 +48,8 @@ final class FaceTest {
       check.due("a private method named " + method.getName(), hidden && names.contains(method.getName()), false);
     }
     for (Field field : NotationParse.class.getDeclaredFields()) {
-      check.due("private " + field.getName(), Modifier.isPrivate(field.getModifiers()), !field.getName().equals("NONE"));
+      boolean hidden = Modifier.isPrivate(field.getModifiers());
+      check.due("private " + field.getName(), hidden, !field.getName().equals("NONE"));
     }
     check.due("constructors", Arrays.toString(NotationParse.class.getDeclaredConstructors()),
         "[public NotationParse()]");
