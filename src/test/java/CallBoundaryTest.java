@@ -135,8 +135,8 @@ final class CallBoundaryTest {
     NotationParse x = Check.sums();
     String[] none = {"(", ")", "[]", "((", ",;", "a1", "1a", "a+", "+a", "+1", "1+", "[a", "a]", " ", "\n", " a", "a ",
         "a b", "_", "\"", "'", "`", "\\", "\t", "\r", "\u0000", "\u0000a", "a\u0000", "\u007f", "\u0080", "\u00e1",
-        "\u00ff", "abcdefg1", "1abcdefg", "abc1defg", "+++++++(", "(+++++++", "aaaaaaa\u00e1", "\u00e1aaaaaaa", "a\u00c1",
-        "\u00ff\u00ff\u00ff\u00ff\u00ff\u00ff\u00ff\u00ff"};
+        "\u00ff", "abcdefg1", "1abcdefg", "abc1defg", "+++++++(", "(+++++++", "aaaaaaa\u00e1", "\u00e1aaaaaaa",
+        "a\u00c1", "\u00ff\u00ff\u00ff\u00ff\u00ff\u00ff\u00ff\u00ff"};
     for (String word : none) {
       check.refused(x, "the word " + word, () -> Check.word(x, word), ARGUMENT);
     }
