@@ -40,6 +40,7 @@ final class CallBoundaryTest {
     isKeyOfPartsInHand();
     aboutAnotherWhat();
     allIsFull();
+    partsInHandAreNotRead();
     check.end();
   }
 
@@ -609,5 +610,27 @@ final class CallBoundaryTest {
     check.refused(x, "a notation more", () -> x.notation(0), STATE);
     check.refused(x, "a node more", () -> x.node(30, 0), NO_ELEMENT);
     check.due("the last node", Check.node(x, 29), "-1/0/58/1/28");
+  }
+
+  /** "The parts in hand are a notation" by notation() alone: beside 12 they are in no text's way. */
+  private static void partsInHandAreNotRead() {
+    for (String parts : new String[] {"_0 k _0 k _0 k", "_10 z", "z _0", "_0"}) {
+      NotationParse x = twelve();
+      Check.parts(x, parts);
+      check.due("30 words", Check.read(x, "(".repeat(14) + "a" + ")".repeat(14) + "/"), 1);
+      check.due("a level too low", Check.read(x, "a/////b/"), "fault 1 at 7");
+      check.due("a word of the parts", Check.read(x, "z"), 1);
+      check.due("no term of them", Check.read(x, "z a"), "fault 1 at 2");
+      check.due("no hole of them", Check.read(x, "a z"), "fault 1 at 2");
+      check.due("still in hand", x.about(1), parts.split(" ").length);
+    }
+    NotationParse y = new NotationParse();
+    for (int i = 0; i < 12; i++) {
+      Check.notation(y, i % 2 == 0 ? 0 : 9, i % 2 == 0 ? "f _9" : "/" + "/".repeat(i / 2) + " _9");
+    }
+    y.hole(0);
+    check.due("a longer text", Check.read(y, "/ / / / / a"), 1);
+    check.due("a level too low for the hole at hand's side", Check.read(y, "/ f a"), "fault 1 at 2");
+    check.due("the same in brackets", Check.read(y, "(/ / f a)"), "fault 1 at 5");
   }
 }
